@@ -22,8 +22,24 @@ public final class WorkTest {
                 allOps(checks, near, b);
             }
         }
+        guessesTooGreatByTwo(checks);
         wrong(checks);
         checks.end();
+    }
+
+    /** Divisions whose quotient, guessed from the highest limbs alone, must be mended twice. */
+    private static void guessesTooGreatByTwo(Checks checks) {
+        BigInteger a = Numbers.power(95).subtract(Numbers.power(63));
+        BigInteger b = Numbers.power(63).add(Numbers.power(32)).subtract(BigInteger.ONE);
+        for (int up = 0; up <= 416; up += 13) {
+            for (int apart = 0; up + apart <= 416; apart += 32) {
+                BigInteger dividend = a.shiftLeft(up + apart);
+                BigInteger divisor = b.shiftLeft(up);
+                allOps(checks, dividend, divisor);
+                allOps(checks, dividend.negate(), divisor.add(BigInteger.ONE));
+                allOps(checks, dividend.add(BigInteger.ONE), divisor.negate());
+            }
+        }
     }
 
     private static BigInteger result(int op, BigInteger a, BigInteger b) {
