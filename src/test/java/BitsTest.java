@@ -4,26 +4,34 @@ import java.math.BigInteger;
 public final class BitsTest {
     public static void main(String[] args) {
         Checks checks = new Checks();
-        length(checks, BigInteger.ZERO);
-        for (int exponent = 0; exponent <= 512; exponent++) {
-            BigInteger below = Numbers.power(exponent).subtract(BigInteger.ONE);
-            length(checks, below);
-            length(checks, below.negate());
-            if (exponent < 512) {
-                length(checks, Numbers.power(exponent));
-                length(checks, Numbers.power(exponent).negate());
+        checks.sentence("How many bits x has without its sign");
+        for (int length = 1; length <= 512; length++) {
+            BigInteger low = Numbers.power(length - 1);
+            BigInteger high = Numbers.power(length).subtract(BigInteger.ONE);
+            for (BigInteger number : new BigInteger[] {low, low.negate(), high, high.negate()}) {
+                due(checks, number, length);
             }
         }
-        ExactNumbers x = new ExactNumbers();
-        for (int bad : new int[] {-1, 64, Integer.MIN_VALUE, Integer.MAX_VALUE}) {
+        checks.sentence("(0 for 0)");
+        due(checks, BigInteger.ZERO, 0);
+        ExactNumbers x = Numbers.with(Numbers.GREATEST);
+        x.work(1, 0, 0, 0);
+        checks.due("bits of a difference that is 0", x.bits(0), 0);
+        checks.sentence("-1 without such a slot");
+        x = Slots.filled();
+        for (int bad : Slots.NONE) {
             checks.due("bits(" + bad + ")", x.bits(bad), -1);
         }
+        Slots.areUntouched(checks, "bits", x);
         checks.end();
     }
 
-    private static void length(Checks checks, BigInteger number) {
-        ExactNumbers x = new ExactNumbers();
-        Numbers.put(x, 63, number);
-        checks.due("bits of " + number, x.bits(63), number.abs().bitLength());
+    private static void due(Checks checks, BigInteger number, int length) {
+        for (int slot : new int[] {0, 63}) {
+            ExactNumbers x = new ExactNumbers();
+            Numbers.put(x, slot, number);
+            checks.due("bits of " + number, x.bits(slot), length);
+            checks.due("bits of another slot", x.bits(63 - slot), 0);
+        }
     }
 }

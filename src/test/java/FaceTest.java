@@ -25,9 +25,11 @@ public final class FaceTest {
     public static void main(String[] args) {
         Checks checks = new Checks();
         Class<?> type = ExactNumbers.class;
+        checks.sentence("The constants: FINE = 0, GREAT = 1, ZERO = 2, WRONG = 3");
+        constants(checks);
+        checks.sentence("The public face");
         checks.due("class public final",
                 Modifier.isPublic(type.getModifiers()) && Modifier.isFinal(type.getModifiers()), true);
-        constants(checks);
         methods(checks, type);
         constructors(checks, type);
         fields(checks, type);

@@ -9,6 +9,15 @@ final class Numbers {
     /** A number that no test expects by chance, to see whether a slot stayed as it was. */
     static final BigInteger MARK = new BigInteger("-271828182845904523536028747135266249");
 
+    /** No bases: beside the ends, what a byte of would be a base, and the ends of int. */
+    static final int[] NO_BASES = {
+        Integer.MIN_VALUE, -36, -10, -2, -1, 0, 1, 37, 38, 64, 258, 266, 292, Integer.MAX_VALUE
+    };
+    /** No lengths of words: beside the ends, what six or eight bits of would be one. */
+    static final int[] NO_LENGTHS = {
+        Integer.MIN_VALUE, -64, -63, -1, 0, 65, 66, 72, 128, 257, 320, Integer.MAX_VALUE
+    };
+
     private Numbers() {
     }
 
@@ -59,6 +68,19 @@ final class Numbers {
         StringBuilder text = new StringBuilder();
         for (int i = 0; i < length; i++) {
             text.append((char) x.byteOf(i));
+        }
+        return text.toString();
+    }
+
+    /** A call more than it has bytes. */
+    static String writtenLatest(ExactNumbers x) {
+        StringBuilder text = new StringBuilder();
+        for (int i = 0; i < 520; i++) {
+            int letter = x.byteOf(i);
+            if (letter == -1) {
+                break;
+            }
+            text.append((char) letter);
         }
         return text.toString();
     }

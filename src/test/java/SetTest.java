@@ -9,33 +9,44 @@ public final class SetTest {
 
     public static void main(String[] args) {
         Checks checks = new Checks();
+        checks.sentence("Slot s becomes v, with its sign");
         for (long value : VALUES) {
-            for (int slot : new int[] {0, 1, 31, 63}) {
-                becomes(checks, slot, value, true, BigInteger.valueOf(value));
-                becomes(checks, slot, value, false, new BigInteger(Long.toUnsignedString(value)));
-            }
+            everySlot(checks, value, true, BigInteger.valueOf(value));
         }
-        for (int slot : new int[] {-1, 64, 65, Integer.MIN_VALUE, Integer.MAX_VALUE}) {
-            ExactNumbers x = new ExactNumbers();
-            checks.due("set(" + slot + ")", x.set(slot, 5, true), ExactNumbers.WRONG);
-            checks.due("set(" + slot + ") without sign", x.set(slot, 5, false), ExactNumbers.WRONG);
-            for (int other = 0; other < 64; other++) {
-                checks.due("slot " + other + " after a wrong set", x.bits(other), 0);
-            }
+        checks.sentence("or (for sign false) without");
+        for (long value : VALUES) {
+            everySlot(checks, value, false, new BigInteger(Long.toUnsignedString(value)));
+        }
+        checks.sentence("WRONG (no such slot)");
+        for (int slot : Slots.NONE) {
+            refused(checks, slot, true);
+            refused(checks, slot, false);
         }
         checks.end();
+    }
+
+    private static void everySlot(Checks checks, long value, boolean sign, BigInteger want) {
+        for (int slot = 0; slot < 64; slot++) {
+            becomes(checks, slot, value, sign, want);
+        }
     }
 
     private static void becomes(Checks checks, int slot, long value, boolean sign, BigInteger want) {
         // What stood there before must go, its highest limbs and its sign too.
         for (BigInteger before : new BigInteger[] {BigInteger.ZERO, Numbers.GREATEST.negate()}) {
-            ExactNumbers x = new ExactNumbers();
+            ExactNumbers x = Slots.filled();
             Numbers.put(x, slot, before);
             String call = "set(" + slot + ", " + value + ", " + sign + ")";
             checks.due(call, x.set(slot, value, sign), ExactNumbers.FINE);
             checks.due(call, Numbers.take(x, slot), want);
-            checks.due(call + " beside it", x.bits((slot + 1) % 64), 0);
-            checks.due(call + " beside it", x.bits((slot + 63) % 64), 0);
+            Slots.othersAreUntouched(checks, call, x, slot);
         }
+    }
+
+    private static void refused(Checks checks, int slot, boolean sign) {
+        ExactNumbers x = Slots.filled();
+        String call = "set(" + slot + ", -5, " + sign + ")";
+        checks.due(call, x.set(slot, -5, sign), ExactNumbers.WRONG);
+        Slots.areUntouched(checks, call, x);
     }
 }

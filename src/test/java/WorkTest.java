@@ -3,14 +3,40 @@ import java.util.List;
 
 /** Promise 5: work, against the Java library's numbers. */
 public final class WorkTest {
+    private static final BigInteger[] ENDS = {
+        Numbers.GREATEST, Numbers.GREATEST.subtract(BigInteger.ONE), Numbers.power(511),
+        Numbers.power(511).subtract(BigInteger.ONE), Numbers.power(256), BigInteger.TWO, BigInteger.ONE
+    };
+
     public static void main(String[] args) {
         Checks checks = new Checks();
+        checks.sentence("Slot s becomes x op y: op 0 + 1 - 2 * 3 / 4 % 5 & 6 | 7 ^ 8 &^");
+        everyOp(checks);
+        guessesTooGreatByTwo(checks);
+        everySlot(checks);
+        checks.sentence("Slot s becomes x op y, where s is x, y or both");
+        for (BigInteger a : Numbers.edges()) {
+            slotsThatAreTheSame(checks, a);
+        }
+        checks.sentence("GREAT");
+        sumsRoundTheLimit(checks);
+        productsRoundTheLimit(checks);
+        endsWithEnds(checks);
+        checks.sentence("ZERO");
+        divisionsByZero(checks);
+        checks.sentence("or WRONG (no such slots");
+        noSuchSlots(checks);
+        checks.sentence("or op)");
+        noSuchOp(checks);
+        checks.end();
+    }
+
+    private static void everyOp(Checks checks) {
         List<BigInteger> edges = Numbers.edges();
         for (BigInteger a : edges) {
             for (BigInteger b : edges) {
                 allOps(checks, a, b);
             }
-            slotsThatAreTheSame(checks, a);
         }
         Sequence sequence = new Sequence(5);
         for (int i = 0; i < 4000; i++) {
@@ -22,9 +48,6 @@ public final class WorkTest {
                 allOps(checks, near, b);
             }
         }
-        guessesTooGreatByTwo(checks);
-        wrong(checks);
-        checks.end();
     }
 
     /** Divisions whose quotient, guessed from the highest limbs alone, must be mended twice. */
@@ -38,6 +61,22 @@ public final class WorkTest {
                 allOps(checks, dividend, divisor);
                 allOps(checks, dividend.negate(), divisor.add(BigInteger.ONE));
                 allOps(checks, dividend.add(BigInteger.ONE), divisor.negate());
+            }
+        }
+    }
+
+    private static void everySlot(Checks checks) {
+        for (int op = 0; op <= 8; op++) {
+            for (int slot = 0; slot < 64; slot++) {
+                ExactNumbers x = Slots.filled();
+                int left = (slot + 17) % 64;
+                int right = (slot + 40) % 64;
+                String call = "work(" + op + ", " + slot + ", " + left + ", " + right + ")";
+                checks.due(call, x.work(op, slot, left, right), ExactNumbers.FINE);
+                BigInteger want = result(op,
+                        BigInteger.valueOf(Slots.number(left)), BigInteger.valueOf(Slots.number(right)));
+                checks.due(call, Numbers.take(x, slot), want);
+                Slots.othersAreUntouched(checks, call, x, slot);
             }
         }
     }
@@ -87,34 +126,132 @@ public final class WorkTest {
     private static void slotsThatAreTheSame(Checks checks, BigInteger a) {
         BigInteger b = new BigInteger("-123456789012345678901234567890");
         for (int op = 0; op <= 8; op++) {
-            answers(checks, Numbers.with(a, b), op, 0, 0, 1, a, b, a);
-            answers(checks, Numbers.with(a, b), op, 1, 0, 1, a, b, b);
-            answers(checks, Numbers.with(a, b), op, 1, 0, 0, a, a, b);
-            answers(checks, Numbers.with(a, b), op, 0, 0, 0, a, a, a);
+            sameSlots(checks, op, a, b);
         }
     }
 
-    private static void wrong(Checks checks) {
-        for (int bad : new int[] {-1, 64, Integer.MIN_VALUE, Integer.MAX_VALUE}) {
+    private static void sameSlots(Checks checks, int op, BigInteger a, BigInteger b) {
+        answers(checks, Numbers.with(a, b), op, 0, 0, 1, a, b, a);
+        answers(checks, Numbers.with(a, b), op, 1, 0, 1, a, b, b);
+        answers(checks, Numbers.with(a, b), op, 1, 0, 0, a, a, b);
+        answers(checks, Numbers.with(a, b), op, 0, 0, 0, a, a, a);
+    }
+
+    /** Sums and differences that are 2 to the power 512, or a little less or more. */
+    private static void sumsRoundTheLimit(Checks checks) {
+        for (BigInteger a : Numbers.edges()) {
+            for (int step = -2; step <= 2; step++) {
+                BigInteger total = Numbers.LIMIT.add(BigInteger.valueOf(step));
+                for (BigInteger want : new BigInteger[] {total, total.negate()}) {
+                    BigInteger b = want.subtract(a);
+                    if (!Numbers.isTooGreat(b)) {
+                        sameSlots(checks, 0, a, b);
+                        sameSlots(checks, 1, a, b.negate());
+                        allOps(checks, a, b);
+                        allOps(checks, a, b.negate());
+                    }
+                }
+            }
+        }
+    }
+
+    /** Products of two factors whose lengths are together those of 2 to the power 512. */
+    private static void productsRoundTheLimit(Checks checks) {
+        for (int exponent = 1; exponent < 512; exponent++) {
+            BigInteger a = Numbers.power(exponent);
+            BigInteger b = Numbers.power(512 - exponent);
+            BigInteger less = b.subtract(BigInteger.ONE);
+            for (BigInteger left : new BigInteger[] {a, a.negate()}) {
+                sameSlots(checks, 2, left, b);
+                sameSlots(checks, 2, left, less);
+                sameSlots(checks, 2, left.add(BigInteger.ONE), less);
+                sameSlots(checks, 2, left, less.negate());
+            }
+        }
+        for (BigInteger factor : new BigInteger[] {Numbers.power(256), Numbers.power(128)}) {
+            // (f - 1) * (f + 1) is f * f - 1.
+            sameSlots(checks, 2, factor.subtract(BigInteger.ONE), factor.add(BigInteger.ONE));
+            sameSlots(checks, 2, factor, factor);
+        }
+    }
+
+    /** - (2 to the power 512) is made out of bits, too. */
+    private static void endsWithEnds(Checks checks) {
+        for (BigInteger left : ENDS) {
+            for (BigInteger right : ENDS) {
+                for (int op = 0; op <= 8; op++) {
+                    sameSlots(checks, op, left, right);
+                    sameSlots(checks, op, left.negate(), right);
+                    sameSlots(checks, op, left, right.negate());
+                    sameSlots(checks, op, left.negate(), right.negate());
+                }
+            }
+        }
+    }
+
+    private static void divisionsByZero(Checks checks) {
+        for (int op = 3; op <= 4; op++) {
+            for (BigInteger a : Numbers.edges()) {
+                dividedByZero(checks, op, a, 2);
+                dividedByZero(checks, op, a, 0);
+                dividedByZero(checks, op, a, 1);
+            }
+            ExactNumbers x = Slots.filled();
+            x.set(40, 0, true);
+            checks.due("work(" + op + ") by 0", x.work(op, 7, 8, 40), ExactNumbers.ZERO);
+            Slots.othersAreUntouched(checks, "work(" + op + ") by 0", x, 40);
+            checks.due("the 0 itself", x.bits(40), 0);
+        }
+        for (int op : new int[] {0, 1, 2, 5, 6, 7, 8}) {
+            ExactNumbers x = new ExactNumbers();
+            checks.due("work(" + op + ") of 0 and 0", x.work(op, 0, 1, 2), ExactNumbers.FINE);
+        }
+    }
+
+    private static void dividedByZero(Checks checks, int op, BigInteger a, int target) {
+        ExactNumbers x = Numbers.with(a, BigInteger.ZERO, Numbers.MARK);
+        BigInteger before = new BigInteger[] {a, BigInteger.ZERO, Numbers.MARK}[target];
+        String call = "work(" + op + ", " + target + ", 0, 1) of " + a + " and 0";
+        checks.due(call, x.work(op, target, 0, 1), ExactNumbers.ZERO);
+        checks.due(call, Numbers.take(x, target), before);
+    }
+
+    private static void noSuchSlots(Checks checks) {
+        for (int bad : Slots.NONE) {
             for (int op = 0; op <= 8; op++) {
                 refused(checks, op, bad, 1, 2);
                 refused(checks, op, 0, bad, 2);
                 refused(checks, op, 0, 1, bad);
+                refused(checks, op, bad, bad, bad);
                 // Slot 9 is 0: a slot that is none comes before a division by 0.
                 refused(checks, op, bad, 1, 9);
-                refused(checks, op, bad, bad, bad);
+                refused(checks, op, 0, bad, 9);
+                // Slot 8 is the greatest: it comes before what is too great.
+                refused(checks, op, bad, 8, 8);
             }
         }
-        for (int op : new int[] {-1, 9, 10, 255, Integer.MIN_VALUE, Integer.MAX_VALUE}) {
+    }
+
+    private static void noSuchOp(Checks checks) {
+        for (int op : new int[] {
+            -1, 9, 10, 16, 255, 256, 259, -252, Integer.MIN_VALUE, Integer.MAX_VALUE
+        }) {
             refused(checks, op, 0, 1, 2);
             refused(checks, op, 0, 1, 9);
+            refused(checks, op, 0, 8, 8);
+            refused(checks, op, 0, 0, 0);
         }
     }
 
     private static void refused(Checks checks, int op, int s, int left, int right) {
-        ExactNumbers x = Numbers.with(Numbers.MARK, BigInteger.TEN, BigInteger.TWO);
+        ExactNumbers x = Slots.filled();
+        x.set(9, 0, true);
+        Numbers.put(x, 8, Numbers.GREATEST);
         String call = "work(" + op + ", " + s + ", " + left + ", " + right + ")";
         checks.due(call, x.work(op, s, left, right), ExactNumbers.WRONG);
-        checks.due(call, Numbers.take(x, 0), Numbers.MARK);
+        checks.due(call + ", then slot 9", x.bits(9), 0);
+        checks.due(call + ", then slot 8", Numbers.take(x, 8), Numbers.GREATEST);
+        x.set(8, Slots.number(8), true);
+        Slots.othersAreUntouched(checks, call, x, 9);
     }
 }
