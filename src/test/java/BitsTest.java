@@ -18,12 +18,18 @@ public final class BitsTest {
         x.work(1, 0, 0, 0);
         checks.due("bits of a difference that is 0", x.bits(0), 0);
         checks.sentence("-1 without such a slot");
-        x = Slots.filled();
+        for (Slots slots : Slots.BOTH_WAYS) {
+            noSuchSlot(checks, slots);
+        }
+        checks.end();
+    }
+
+    private static void noSuchSlot(Checks checks, Slots slots) {
+        ExactNumbers x = slots.filled();
         for (int bad : Slots.NONE) {
             checks.due("bits(" + bad + ")", x.bits(bad), -1);
         }
-        Slots.areUntouched(checks, "bits", x);
-        checks.end();
+        slots.areUntouched(checks, "bits", x);
     }
 
     private static void due(Checks checks, BigInteger number, int length) {

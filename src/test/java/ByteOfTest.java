@@ -11,7 +11,7 @@ public final class ByteOfTest {
         doesNotFollowTheSlot(checks);
         checks.sentence("-1 when there is none: nothing was written");
         outside(checks, new ExactNumbers(), 0);
-        ExactNumbers x = Slots.filled();
+        ExactNumbers x = Slots.EVEN_ABOVE.filled();
         x.write(64, 10);
         x.write(0, 37);
         outside(checks, x, 0);

@@ -10,14 +10,20 @@ public final class CompareTest {
         everyLimb(checks);
         everySlot(checks);
         checks.sentence("-2 without such slots");
-        ExactNumbers x = Slots.filled();
+        for (Slots slots : Slots.BOTH_WAYS) {
+            noSuchSlots(checks, slots);
+        }
+        checks.end();
+    }
+
+    private static void noSuchSlots(Checks checks, Slots slots) {
+        ExactNumbers x = slots.filled();
         for (int bad : Slots.NONE) {
             checks.due("compare(" + bad + ", 0)", x.compare(bad, 0), -2);
             checks.due("compare(0, " + bad + ")", x.compare(0, bad), -2);
             checks.due("compare of the same wrong slot " + bad, x.compare(bad, bad), -2);
         }
-        Slots.areUntouched(checks, "compare", x);
-        checks.end();
+        slots.areUntouched(checks, "compare", x);
     }
 
     private static void sweep(Checks checks) {
@@ -55,10 +61,10 @@ public final class CompareTest {
 
     private static void everySlot(Checks checks) {
         for (int slot = 0; slot < 64; slot++) {
-            ExactNumbers x = Slots.filled();
+            ExactNumbers x = Slots.EVEN_ABOVE.filled();
             for (int other = 0; other < 64; other++) {
                 checks.due("compare(" + slot + ", " + other + ")", x.compare(slot, other),
-                        Long.compare(Slots.number(slot), Slots.number(other)));
+                        Long.compare(Slots.EVEN_ABOVE.number(slot), Slots.EVEN_ABOVE.number(other)));
             }
         }
     }

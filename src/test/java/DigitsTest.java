@@ -98,19 +98,26 @@ public final class DigitsTest {
                 continue;
             }
             for (int place = 0; place < 8; place++) {
-                ExactNumbers x = Slots.filled();
-                x.write(0, 10);
-                x.digits(Numbers.word("42"));
                 StringBuilder text = new StringBuilder("11111111");
                 text.setCharAt(place, (char) bad);
-                checks.due("digits with " + bad, x.digits(Numbers.word(text.toString())), false);
-                x.digits(Numbers.word("7"));
-                x.read(0, 10);
-                checks.due("digits round a refused word", x.cut(0, 64, true), 427);
-                checks.due("text after a refused word", x.byteOf(0), '1');
-                Slots.othersAreUntouched(checks, "refused digits", x, 0);
+                for (Slots slots : Slots.BOTH_WAYS) {
+                    refused(checks, slots, text.toString());
+                }
             }
         }
+    }
+
+    private static void refused(Checks checks, Slots slots, String text) {
+        ExactNumbers x = slots.filled();
+        x.write(0, 10);
+        x.digits(Numbers.word("42"));
+        String call = "digits(" + Numbers.word(text) + ")";
+        checks.due(call, x.digits(Numbers.word(text)), false);
+        checks.due(call + ", then the text", Numbers.writtenLatest(x), Long.toString(slots.number(0)));
+        x.digits(Numbers.word("7"));
+        x.read(0, 10);
+        checks.due(call + ", then the digits round it", x.cut(0, 64, true), 427);
+        slots.othersAreUntouched(checks, call, x, 0);
     }
 
     /** All but the last so many of 1000 digits. */

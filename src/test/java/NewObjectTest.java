@@ -30,7 +30,7 @@ public final class NewObjectTest {
     /** Objects made before and after another was used look new, and it keeps what it has. */
     private static void besideUsedOnes(Checks checks) {
         ExactNumbers before = new ExactNumbers();
-        ExactNumbers used = Slots.filled();
+        ExactNumbers used = Slots.EVEN_ABOVE.filled();
         used.write(1, 10);
         used.digits('1');
         ExactNumbers after = new ExactNumbers();
@@ -42,6 +42,6 @@ public final class NewObjectTest {
         checks.due("text of the used object", Numbers.writtenLatest(used), "-2000006");
         checks.due("read in the used object", used.read(0, 10), ExactNumbers.FINE);
         checks.due("digit of the used object", used.cut(0, 64, true), 1);
-        Slots.othersAreUntouched(checks, "use of other objects", used, 0);
+        Slots.EVEN_ABOVE.othersAreUntouched(checks, "use of other objects", used, 0);
     }
 }

@@ -68,11 +68,11 @@ public final class ReadTest {
 
     private static void everySlot(Checks checks) {
         for (int slot = 0; slot < 64; slot++) {
-            ExactNumbers x = Slots.filled();
+            ExactNumbers x = Slots.EVEN_ABOVE.filled();
             Numbers.type(x, "12345");
             checks.due("read(" + slot + ", 10)", x.read(slot, 10), ExactNumbers.FINE);
             checks.due("read(" + slot + ", 10)", Numbers.take(x, slot), BigInteger.valueOf(12345));
-            Slots.othersAreUntouched(checks, "read(" + slot + ", 10)", x, slot);
+            Slots.EVEN_ABOVE.othersAreUntouched(checks, "read(" + slot + ", 10)", x, slot);
         }
     }
 
@@ -110,12 +110,13 @@ public final class ReadTest {
     }
 
     private static void stays(Checks checks, String digits, int slot, int base, int answer) {
-        ExactNumbers x = marked(digits);
-        String call = "read(" + slot + ", " + base + ") of " + digits;
-        checks.due(call, x.read(slot, base), answer);
-        checks.due(call, Numbers.take(x, SLOT), Numbers.MARK);
-        checks.due(call + ", slot 0", x.bits(0), 0);
-        checks.due(call + ", slot 63", x.bits(63), 0);
+        for (Slots slots : Slots.BOTH_WAYS) {
+            ExactNumbers x = slots.filled();
+            Numbers.type(x, digits);
+            String call = "read(" + slot + ", " + base + ") of " + digits;
+            checks.due(call, x.read(slot, base), answer);
+            slots.areUntouched(checks, call, x);
+        }
     }
 
     private static void withoutDigits(Checks checks) {

@@ -19,8 +19,10 @@ public final class SetTest {
         }
         checks.sentence("WRONG (no such slot)");
         for (int slot : Slots.NONE) {
-            refused(checks, slot, true);
-            refused(checks, slot, false);
+            for (Slots slots : Slots.BOTH_WAYS) {
+                refused(checks, slots, slot, true);
+                refused(checks, slots, slot, false);
+            }
         }
         checks.end();
     }
@@ -34,19 +36,19 @@ public final class SetTest {
     private static void becomes(Checks checks, int slot, long value, boolean sign, BigInteger want) {
         // What stood there before must go, its highest limbs and its sign too.
         for (BigInteger before : new BigInteger[] {BigInteger.ZERO, Numbers.GREATEST.negate()}) {
-            ExactNumbers x = Slots.filled();
+            ExactNumbers x = Slots.EVEN_ABOVE.filled();
             Numbers.put(x, slot, before);
             String call = "set(" + slot + ", " + value + ", " + sign + ")";
             checks.due(call, x.set(slot, value, sign), ExactNumbers.FINE);
             checks.due(call, Numbers.take(x, slot), want);
-            Slots.othersAreUntouched(checks, call, x, slot);
+            Slots.EVEN_ABOVE.othersAreUntouched(checks, call, x, slot);
         }
     }
 
-    private static void refused(Checks checks, int slot, boolean sign) {
-        ExactNumbers x = Slots.filled();
+    private static void refused(Checks checks, Slots slots, int slot, boolean sign) {
+        ExactNumbers x = slots.filled();
         String call = "set(" + slot + ", -5, " + sign + ")";
         checks.due(call, x.set(slot, -5, sign), ExactNumbers.WRONG);
-        Slots.areUntouched(checks, call, x);
+        slots.areUntouched(checks, call, x);
     }
 }

@@ -84,13 +84,13 @@ public final class ShiftTest {
 
     private static void everySlot(Checks checks, boolean left) {
         for (int slot = 0; slot < 64; slot++) {
-            ExactNumbers x = Slots.filled();
+            ExactNumbers x = Slots.EVEN_ABOVE.filled();
             int source = (slot + 23) % 64;
-            BigInteger number = BigInteger.valueOf(Slots.number(source));
+            BigInteger number = BigInteger.valueOf(Slots.EVEN_ABOVE.number(source));
             String call = "shift(" + slot + ", " + source + ", 3, " + left + ")";
             checks.due(call, x.shift(slot, source, 3, left), ExactNumbers.FINE);
             checks.due(call, Numbers.take(x, slot), left ? number.shiftLeft(3) : number.shiftRight(3));
-            Slots.othersAreUntouched(checks, call, x, slot);
+            Slots.EVEN_ABOVE.othersAreUntouched(checks, call, x, slot);
         }
     }
 
@@ -117,16 +117,16 @@ public final class ShiftTest {
     }
 
     private static void refused(Checks checks, int s, int source, int n) {
-        for (boolean left : new boolean[] {true, false}) {
-            ExactNumbers x = Slots.filled();
-            x.set(9, 0, true);
-            Numbers.put(x, 8, Numbers.GREATEST);
-            String call = "shift(" + s + ", " + source + ", " + n + ", " + left + ")";
-            checks.due(call, x.shift(s, source, n, left), ExactNumbers.WRONG);
-            checks.due(call + ", then slot 9", x.bits(9), 0);
-            checks.due(call + ", then slot 8", Numbers.take(x, 8), Numbers.GREATEST);
-            x.set(8, Slots.number(8), true);
-            Slots.othersAreUntouched(checks, call, x, 9);
+        for (Slots slots : Slots.BOTH_WAYS) {
+            refused(checks, slots, s, source, n, true);
+            refused(checks, slots, s, source, n, false);
         }
+    }
+
+    private static void refused(Checks checks, Slots slots, int s, int source, int n, boolean left) {
+        ExactNumbers x = slots.filledWithEnds();
+        String call = "shift(" + s + ", " + source + ", " + n + ", " + left + ")";
+        checks.due(call, x.shift(s, source, n, left), ExactNumbers.WRONG);
+        slots.areUntouchedWithEnds(checks, call, x);
     }
 }

@@ -134,9 +134,9 @@ public final class TermsTest {
     }
 
     private static void great(Checks checks, int op, BigInteger a, BigInteger b) {
-        BigInteger[] before = {a, b, Numbers.MARK};
-        for (int target = 0; target <= 2; target++) {
-            for (int kept = 0; kept <= 2; kept++) {
+        for (int target = 0; target <= 3; target++) {
+            for (int kept = 0; kept <= 3; kept++) {
+                BigInteger[] before = {a, b, Numbers.MARK, Numbers.MARK.negate()};
                 ExactNumbers x = Numbers.with(before);
                 String call = "call " + op + " of " + a + " and " + b;
                 checks.due(call, call(x, op, target, 0, 1), ExactNumbers.GREAT);

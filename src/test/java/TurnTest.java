@@ -59,13 +59,13 @@ public final class TurnTest {
 
     private static void everySlot(Checks checks, boolean not) {
         for (int slot = 0; slot < 64; slot++) {
-            ExactNumbers x = Slots.filled();
+            ExactNumbers x = Slots.EVEN_ABOVE.filled();
             int source = (slot + 23) % 64;
-            long number = Slots.number(source);
+            long number = Slots.EVEN_ABOVE.number(source);
             String call = "turn(" + slot + ", " + source + ", " + not + ")";
             checks.due(call, x.turn(slot, source, not), ExactNumbers.FINE);
             checks.due(call, x.cut(slot, 64, true), not ? ~number : -number);
-            Slots.othersAreUntouched(checks, call, x, slot);
+            Slots.EVEN_ABOVE.othersAreUntouched(checks, call, x, slot);
         }
     }
 
@@ -103,13 +103,16 @@ public final class TurnTest {
     }
 
     private static void refused(Checks checks, int s, int source) {
-        for (boolean not : new boolean[] {true, false}) {
-            ExactNumbers x = Slots.filled();
-            Numbers.put(x, 8, Numbers.GREATEST);
-            String call = "turn(" + s + ", " + source + ", " + not + ")";
-            checks.due(call, x.turn(s, source, not), ExactNumbers.WRONG);
-            checks.due(call + ", then slot 8", Numbers.take(x, 8), Numbers.GREATEST);
-            Slots.othersAreUntouched(checks, call, x, 8);
+        for (Slots slots : Slots.BOTH_WAYS) {
+            refused(checks, slots, s, source, true);
+            refused(checks, slots, s, source, false);
         }
+    }
+
+    private static void refused(Checks checks, Slots slots, int s, int source, boolean not) {
+        ExactNumbers x = slots.filledWithEnds();
+        String call = "turn(" + s + ", " + source + ", " + not + ")";
+        checks.due(call, x.turn(s, source, not), ExactNumbers.WRONG);
+        slots.areUntouchedWithEnds(checks, call, x);
     }
 }

@@ -68,15 +68,15 @@ public final class WorkTest {
     private static void everySlot(Checks checks) {
         for (int op = 0; op <= 8; op++) {
             for (int slot = 0; slot < 64; slot++) {
-                ExactNumbers x = Slots.filled();
+                ExactNumbers x = Slots.EVEN_ABOVE.filled();
                 int left = (slot + 17) % 64;
                 int right = (slot + 40) % 64;
                 String call = "work(" + op + ", " + slot + ", " + left + ", " + right + ")";
                 checks.due(call, x.work(op, slot, left, right), ExactNumbers.FINE);
-                BigInteger want = result(op,
-                        BigInteger.valueOf(Slots.number(left)), BigInteger.valueOf(Slots.number(right)));
-                checks.due(call, Numbers.take(x, slot), want);
-                Slots.othersAreUntouched(checks, call, x, slot);
+                BigInteger a = BigInteger.valueOf(Slots.EVEN_ABOVE.number(left));
+                BigInteger b = BigInteger.valueOf(Slots.EVEN_ABOVE.number(right));
+                checks.due(call, Numbers.take(x, slot), result(op, a, b));
+                Slots.EVEN_ABOVE.othersAreUntouched(checks, call, x, slot);
             }
         }
     }
@@ -196,11 +196,13 @@ public final class WorkTest {
                 dividedByZero(checks, op, a, 0);
                 dividedByZero(checks, op, a, 1);
             }
-            ExactNumbers x = Slots.filled();
-            x.set(40, 0, true);
-            checks.due("work(" + op + ") by 0", x.work(op, 7, 8, 40), ExactNumbers.ZERO);
-            Slots.othersAreUntouched(checks, "work(" + op + ") by 0", x, 40);
-            checks.due("the 0 itself", x.bits(40), 0);
+            for (Slots slots : Slots.BOTH_WAYS) {
+                ExactNumbers x = slots.filled();
+                x.set(40, 0, true);
+                checks.due("work(" + op + ") by 0", x.work(op, 7, 8, 40), ExactNumbers.ZERO);
+                slots.othersAreUntouched(checks, "work(" + op + ") by 0", x, 40);
+                checks.due("the 0 itself", x.bits(40), 0);
+            }
         }
         for (int op : new int[] {0, 1, 2, 5, 6, 7, 8}) {
             ExactNumbers x = new ExactNumbers();
@@ -244,14 +246,15 @@ public final class WorkTest {
     }
 
     private static void refused(Checks checks, int op, int s, int left, int right) {
-        ExactNumbers x = Slots.filled();
-        x.set(9, 0, true);
-        Numbers.put(x, 8, Numbers.GREATEST);
+        for (Slots slots : Slots.BOTH_WAYS) {
+            refused(checks, slots, op, s, left, right);
+        }
+    }
+
+    private static void refused(Checks checks, Slots slots, int op, int s, int left, int right) {
+        ExactNumbers x = slots.filledWithEnds();
         String call = "work(" + op + ", " + s + ", " + left + ", " + right + ")";
         checks.due(call, x.work(op, s, left, right), ExactNumbers.WRONG);
-        checks.due(call + ", then slot 9", x.bits(9), 0);
-        checks.due(call + ", then slot 8", Numbers.take(x, 8), Numbers.GREATEST);
-        x.set(8, Slots.number(8), true);
-        Slots.othersAreUntouched(checks, call, x, 9);
+        slots.areUntouchedWithEnds(checks, call, x);
     }
 }

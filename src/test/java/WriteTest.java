@@ -60,11 +60,11 @@ public final class WriteTest {
 
     private static void everySlot(Checks checks) {
         for (int slot = 0; slot < 64; slot++) {
-            ExactNumbers x = Slots.filled();
-            String want = Long.toString(Slots.number(slot));
+            ExactNumbers x = Slots.EVEN_ABOVE.filled();
+            String want = Long.toString(Slots.EVEN_ABOVE.number(slot));
             checks.due("write(" + slot + ", 10)", x.write(slot, 10), want.length());
             checks.due("write(" + slot + ", 10)", Numbers.writtenLatest(x), want);
-            Slots.areUntouched(checks, "write(" + slot + ", 10)", x);
+            Slots.EVEN_ABOVE.areUntouched(checks, "write(" + slot + ", 10)", x);
         }
     }
 
@@ -119,13 +119,19 @@ public final class WriteTest {
 
     /** What was written latest stays, and so do the numbers. */
     private static void refused(Checks checks, int slot, int base) {
-        ExactNumbers x = Slots.filled();
+        for (Slots slots : Slots.BOTH_WAYS) {
+            refused(checks, slots, slot, base);
+        }
+    }
+
+    private static void refused(Checks checks, Slots slots, int slot, int base) {
+        ExactNumbers x = slots.filled();
         String call = "write(" + slot + ", " + base + ")";
         checks.due(call, x.write(slot, base), -3);
         checks.due(call + " before anything was written", x.byteOf(0), -1);
         x.write(1, 10);
         checks.due(call, x.write(slot, base), -3);
-        checks.due(call + ", then the text", Numbers.writtenLatest(x), "-2000006");
-        Slots.areUntouched(checks, call, x);
+        checks.due(call + ", then the text", Numbers.writtenLatest(x), Long.toString(slots.number(1)));
+        slots.areUntouched(checks, call, x);
     }
 }
